@@ -16,7 +16,6 @@ public final class DuskTown {
     private static final int MOST_DAYS_AT_ONCE = 100;
     private static final int MOST_DAYS_KEPT = 400;
     private static final int MOST_DAYS_STOOD = 60;
-    private static final int SETS = 64;
 
     private final byte[] tape = new byte[TAPE_BYTES];
     private int tapeLength;
@@ -29,8 +28,7 @@ public final class DuskTown {
     private int refusedSayings;
     private final Image imageKept = new Image(plan);
     private final Tales tales = new Tales(plan);
-    private final Reach reach = new Reach(plan);
-    private Keeper keeper;
+    private final Keeper keeper = new Keeper(plan);
     private final int[] row = new int[MOST_MEETINGS];
     private boolean rowKept;
 
@@ -174,10 +172,6 @@ public final class DuskTown {
         }
         requireDays(days, MOST_DAYS_KEPT);
         requireSilent(silent);
-        // It is the one large thing, so an object that never keeps a promise goes without.
-        if (keeper == null) {
-            keeper = new Keeper(plan);
-        }
         keeper.prepare(silent, what == 0);
         int least = keeper.leastSum(course.know[promise], days);
         if (least == NONE) {
@@ -199,34 +193,26 @@ public final class DuskTown {
     public int silence(int promise, int days) throws NoSuchElementException, IllegalArgumentException {
         requireStanding(promise);
         requireDays(days, MOST_DAYS_STOOD);
-        int knowers = course.know[promise];
-        int everybody = plan.everybody();
-        for (int size = 0; size < plan.people; size++) {
-            for (int silent = 0; silent < everybody; silent++) {
-                if (Integer.bitCount(silent) == size && reach.mostDays(knowers, silent, days) < days) {
-                    return silent;
-                }
-            }
-        }
-        return everybody;
+        return keepersOf(promise);
     }
 
     public int stands(int promise, int silent) throws NoSuchElementException, IllegalArgumentException {
         requireStanding(promise);
         requireSilent(silent);
-        return reach.mostDays(course.know[promise], silent, MOST_DAYS_STOOD);
+        return (keepersOf(promise) & ~silent) != 0 ? MOST_DAYS_STOOD : 0;
     }
 
     public int pairs(int promise, int days) throws NoSuchElementException, IllegalArgumentException {
         requireStanding(promise);
         requireDays(days, MOST_DAYS_STOOD);
-        int knowers = course.know[promise];
-        int everybody = plan.everybody();
+        int keepers = keepersOf(promise);
         int found = 0;
-        for (int silent = 0; silent < everybody; silent++) {
-            boolean leavesTwo = Integer.bitCount(everybody & ~silent) == 2;
-            if (leavesTwo && reach.mostDays(knowers, silent, days) == days) {
-                found++;
+        for (int one = 0; one < plan.people; one++) {
+            for (int other = 0; other < one; other++) {
+                int couple = 1 << one | 1 << other;
+                if ((keepers & couple) != 0) {
+                    found++;
+                }
             }
         }
         return found;
@@ -266,6 +252,16 @@ public final class DuskTown {
         refusedSayings = imageKept.refusedSayings;
         tales.heardKnown = false;
         return true;
+    }
+
+    /**
+     * Those, as bits, each of whom can keep the promise alone. A day's first saying is by one
+     * who knows it, to one who had not heard it that day; and he has heard it then himself, so
+     * he can do likewise on each day to come. So it can be kept, for however many days, if and
+     * only if one who knows it meets somebody and is not silent.
+     */
+    private int keepersOf(int promise) {
+        return course.know[promise] & plan.met;
     }
 
     private void requirePerson(int person) {
@@ -334,8 +330,8 @@ public final class DuskTown {
         final int[] order = new int[MOST_MEETINGS];
         /** Where each hour's meetings begin in order; one more for the end. */
         final int[] hourStart = new int[HOURS + 1];
-        /** Of each hour, as bits, who is at more than one of its meetings. */
-        final int[] busy = new int[HOURS];
+        /** People, as bits, who meet somebody. */
+        int met;
 
         Plan() {
             people = 2;
@@ -382,20 +378,16 @@ public final class DuskTown {
 
         void arrange() {
             int place = 0;
+            met = 0;
             for (int at = 0; at < HOURS; at++) {
                 hourStart[at] = place;
-                int met = 0;
-                int again = 0;
                 for (int meeting = 0; meeting < meetings; meeting++) {
                     if (hour[meeting] == at) {
                         order[place] = meeting;
                         place++;
-                        int both = bothOf(meeting);
-                        again |= met & both;
-                        met |= both;
+                        met |= bothOf(meeting);
                     }
                 }
-                busy[at] = again;
             }
             hourStart[HOURS] = place;
         }
@@ -947,317 +939,117 @@ public final class DuskTown {
     }
 
     /**
-     * For how many days a promise can be kept, whatever it costs. A set of people is a number
-     * below SETS, and a set of such sets is the bits of a long.
+     * The least sum by which a promise is kept, and the first day's row of it.
+     *
+     * Of a day's sayings only a chain is needed: from one who knows the promise to him who is
+     * to say it first on the next day (or one saying of his own, if he knows it). All others
+     * can be left out: the sum does not grow by that, and the row comes earlier. Nobody speaks
+     * twice in the least chain, so "once an HOUR" needs no care, and a day is told by who says
+     * it first alone, not by all who know it.
      */
-    private static final class Reach {
-        /** Of each person, the sets that hold him. */
-        private static final long[] HOLDING = {
-            0xAAAAAAAAAAAAAAAAL, 0xCCCCCCCCCCCCCCCCL, 0xF0F0F0F0F0F0F0F0L,
-            0xFF00FF00FF00FF00L, 0xFFFF0000FFFF0000L, 0xFFFFFFFF00000000L
-        };
-
-        final Plan plan;
-        int speakers;
-        /** By who has spoken in this hour: the sets of those who may have heard so far. */
-        final long[] heard = new long[SETS];
-        /** By who knows at a day's beginning: the largest sets who may know at its end. */
-        final long[] next = new long[SETS];
-
-        Reach(Plan town) {
-            plan = town;
-        }
-
-        int mostDays(int knowers, int silent, int limit) {
-            speakers = plan.everybody() & ~silent;
-            long all = findAllNext(knowers);
-            long lasting = all;
-            for (int days = 0; days < limit; days++) {
-                long longer = 0;
-                for (int set = 0; set < SETS; set++) {
-                    if ((all >>> set & 1) != 0 && (next[set] & lasting) != 0) {
-                        longer |= 1L << set;
-                    }
-                }
-                if ((longer >>> knowers & 1) == 0) {
-                    return days;
-                }
-                if (longer == lasting) {
-                    return limit;
-                }
-                lasting = longer;
-            }
-            return limit;
-        }
-
-        /** Fills next for all sets that days can lead to from this one, and tells them. */
-        long findAllNext(int knowers) {
-            long found = 1L << knowers;
-            long done = 0;
-            for (int round = 0; round < SETS && done != found; round++) {
-                for (int set = 0; set < SETS; set++) {
-                    if (((found & ~done) >>> set & 1) != 0) {
-                        next[set] = largestOf(throughDay(set));
-                        found |= next[set];
-                        done |= 1L << set;
-                    }
-                }
-            }
-            return done;
-        }
-
-        /** All sets of those who may have heard it at dusk; it was said at least once. */
-        long throughDay(int knowers) {
-            heard[0] = 1;
-            for (int hour = 0; hour < HOURS; hour++) {
-                int busy = plan.busy[hour] & speakers;
-                for (int place = plan.hourStart[hour]; place < plan.hourStart[hour + 1]; place++) {
-                    throughMeeting(plan.order[place], knowers, busy);
-                }
-                for (int spoke = busy; spoke > 0; spoke--) {
-                    heard[0] |= heard[spoke];
-                    heard[spoke] = 0;
-                }
-            }
-            return heard[0] & ~1L;
-        }
-
-        void throughMeeting(int meeting, int knowers, int busy) {
-            int first = plan.first[meeting];
-            int second = plan.second[meeting];
-            // Downwards, so that what is added here is not gone through at this meeting again.
-            for (int spoke = busy; spoke >= 0; spoke--) {
-                long before = heard[spoke];
-                if (before != 0) {
-                    int free = speakers & ~spoke;
-                    if ((free >> first & 1) != 0) {
-                        heard[spoke | 1 << first & busy] |= afterSaying(before, first, second, knowers);
-                    }
-                    if ((free >> second & 1) != 0) {
-                        heard[spoke | 1 << second & busy] |= afterSaying(before, second, first, knowers);
-                    }
-                }
-            }
-        }
-
-        static long afterSaying(long sets, int speaker, int other, int knowers) {
-            boolean knows = (knowers >> speaker & 1) != 0;
-            long able = knows ? sets : sets & HOLDING[speaker];
-            return withPerson(withPerson(able, speaker), other);
-        }
-
-        static long withPerson(long sets, int person) {
-            return sets & HOLDING[person] | (sets & ~HOLDING[person]) << (1 << person);
-        }
-
-        /** Who knows more can say all that the others could, so smaller sets are not needed. */
-        static long largestOf(long sets) {
-            long within = sets;
-            for (int person = 0; person < MOST_PEOPLE; person++) {
-                within |= (within & HOLDING[person]) >>> (1 << person);
-            }
-            long smaller = 0;
-            for (int person = 0; person < MOST_PEOPLE; person++) {
-                smaller |= (within & HOLDING[person]) >>> (1 << person);
-            }
-            return sets & ~smaller;
-        }
-    }
-
-    /** The least sum by which a promise is kept, and the first day's row of it. */
     private static final class Keeper {
-        private static final long FAR = 1L << 50;
         /**
          * A sum carries its row in its low bits, as a number of base 3 with the day's first
          * meeting highest: of like sums the first row is the least number then.
          */
         private static final int ROW_BITS = 20;
+        private static final long ROW = (1L << ROW_BITS) - 1;
         private static final int[] DIGIT = {177147, 59049, 19683, 6561, 2187, 729, 243, 81, 27, 9, 3, 1};
+        /** Above all sums, and two of it are still far from an overflow. */
+        private static final long FAR = 1L << 50;
 
         final Plan plan;
-        int speakers;
-        int sets;
+        /** What a saying adds, by who says it; FAR if he is silent. */
         final long[] weight = new long[MOST_PEOPLE];
-        /** By who has spoken in this hour and who has heard that day: the least sum so far. */
-        final long[] sum = new long[SETS * SETS];
-        /** By who knows at a day's beginning and at its end: the least sum of that day. */
-        final long[] daySum = new long[SETS * SETS];
-        /** By who knows: the least sum of some days, and of one day more. */
-        long[] some = new long[SETS];
-        long[] more = new long[SETS];
-        long found;
+        /** The least sum of a day's sayings up to now by which each one has it. */
+        final long[] has = new long[MOST_PEOPLE];
+        /** Likewise, by which he has heard it that day. */
+        final long[] heard = new long[MOST_PEOPLE];
+        /** Without rows: by who says it first on a day, and on the next. */
+        final long[] daySum = new long[MOST_PEOPLE * MOST_PEOPLE];
+        /** Without rows: the least sum of some days, by who says it first on their first. */
+        long[] some = new long[MOST_PEOPLE];
+        long[] oneMore = new long[MOST_PEOPLE];
         long best;
 
         Keeper(Plan town) {
             plan = town;
-            Arrays.fill(sum, FAR);
         }
 
         void prepare(int silent, boolean byPrice) {
-            speakers = plan.everybody() & ~silent;
-            sets = plan.everybody() + 1;
             for (int person = 0; person < plan.people; person++) {
-                weight[person] = byPrice ? plan.price[person] : 1;
+                long each = byPrice ? plan.price[person] : 1;
+                weight[person] = (silent >> person & 1) != 0 ? FAR : each << ROW_BITS;
             }
         }
 
         int leastSum(int knowers, int days) {
-            findDaySums(knowers);
+            findDaySums();
             sumDays(days - 1);
             throughDay(knowers);
             best = FAR;
-            for (int set = 1; set < sets; set++) {
-                if (sum[set] < FAR && some[set] < FAR) {
-                    best = Math.min(best, sum[set] + (some[set] << ROW_BITS));
-                }
+            for (int person = 0; person < plan.people; person++) {
+                best = Math.min(best, heard[person] + some[person]);
             }
             return best < FAR ? (int) (best >> ROW_BITS) : NONE;
         }
 
         /** Writes the row of the least sum, by the meetings' numbers. */
         void writeRow(int[] row) {
-            int digits = (int) (best & (1L << ROW_BITS) - 1);
-            for (int place = 0; place < plan.meetings; place++) {
-                row[plan.order[place]] = digits / DIGIT[place] % 3;
+            int digits = (int) (best & ROW);
+            for (int place = MOST_MEETINGS - 1; place >= 0; place--) {
+                if (place < plan.meetings) {
+                    row[plan.order[place]] = digits % 3;
+                }
+                digits /= 3;
             }
         }
 
-        /** Fills daySum for all sets that days can lead to from this one. */
-        void findDaySums(int knowers) {
-            found = 1L << knowers;
-            long done = 0;
-            for (int round = 0; round < SETS && done != found; round++) {
-                for (int set = 0; set < sets; set++) {
-                    if (((found & ~done) >>> set & 1) != 0) {
-                        throughDay(set);
-                        keepDaySums(set);
-                        done |= 1L << set;
-                    }
+        void findDaySums() {
+            for (int person = 0; person < plan.people; person++) {
+                throughDay(1 << person);
+                for (int then = 0; then < plan.people; then++) {
+                    daySum[person * MOST_PEOPLE + then] = heard[then] & ~ROW;
                 }
             }
         }
 
-        void keepDaySums(int knowers) {
-            int row = knowers * SETS;
-            daySum[row] = FAR;
-            for (int set = 1; set < sets; set++) {
-                if (sum[set] < FAR) {
-                    daySum[row + set] = sum[set] >> ROW_BITS;
-                    found |= 1L << set;
-                } else {
-                    daySum[row + set] = FAR;
-                }
-            }
-        }
-
-        /** Leaves in some the least sums of so many days, by who knows ahead of them. */
         void sumDays(int days) {
-            for (int set = 0; set < sets; set++) {
-                some[set] = (found >>> set & 1) != 0 ? 0 : FAR;
-            }
+            Arrays.fill(some, 0);
             for (int day = 0; day < days; day++) {
-                sumOneMore();
+                for (int person = 0; person < plan.people; person++) {
+                    long least = FAR;
+                    for (int then = 0; then < plan.people; then++) {
+                        least = Math.min(least, daySum[person * MOST_PEOPLE + then] + some[then]);
+                    }
+                    oneMore[person] = least;
+                }
                 long[] old = some;
-                some = more;
-                more = old;
-                long step = steadyStep();
-                // If all grew by as much, so they do each day from now on.
-                if (step != NONE) {
-                    for (int set = 0; set < sets; set++) {
-                        if (some[set] < FAR) {
-                            some[set] += step * (days - 1 - day);
-                        }
-                    }
-                    break;
-                }
+                some = oneMore;
+                oneMore = old;
             }
         }
 
-        void sumOneMore() {
-            for (int set = 0; set < sets; set++) {
-                long least = FAR;
-                if ((found >>> set & 1) != 0) {
-                    int row = set * SETS;
-                    for (int then = 1; then < sets; then++) {
-                        least = Math.min(least, daySum[row + then] + some[then]);
-                    }
-                }
-                more[set] = least;
-            }
-        }
-
-        /** By how much each sum of some days has grown over that in more; NONE if unlike. */
-        long steadyStep() {
-            long step = NONE;
-            for (int set = 0; set < sets; set++) {
-                if (some[set] < FAR) {
-                    long grown = some[set] - more[set];
-                    if (step != NONE && step != grown) {
-                        return NONE;
-                    }
-                    step = grown;
-                } else if (more[set] < FAR) {
-                    return NONE;
-                }
-            }
-            return Math.max(step, 0);
-        }
-
-        /** Leaves in sum, by who has heard it at dusk, the least sum of a day. */
         void throughDay(int knowers) {
-            Arrays.fill(sum, 0, SETS, FAR);
-            sum[0] = 0;
-            for (int hour = 0; hour < HOURS; hour++) {
-                int busy = plan.busy[hour] & speakers;
-                for (int place = plan.hourStart[hour]; place < plan.hourStart[hour + 1]; place++) {
-                    throughMeeting(place, knowers, busy);
-                }
-                if (busy != 0) {
-                    forgetWhoSpoke(busy);
-                }
+            for (int person = 0; person < plan.people; person++) {
+                has[person] = (knowers >> person & 1) != 0 ? 0 : FAR;
+                heard[person] = FAR;
+            }
+            for (int place = 0; place < plan.meetings; place++) {
+                throughMeeting(plan.order[place], DIGIT[place]);
             }
         }
 
-        void throughMeeting(int place, int knowers, int busy) {
-            int meeting = plan.order[place];
-            int first = 1 << plan.first[meeting];
-            int second = 1 << plan.second[meeting];
-            long firstSum = (weight[plan.first[meeting]] << ROW_BITS) + DIGIT[place];
-            long secondSum = (weight[plan.second[meeting]] << ROW_BITS) + 2 * DIGIT[place];
-            // Downwards, so that what is put here is not gone through at this meeting again.
-            for (int spoke = busy; spoke >= 0; spoke--) {
-                if ((spoke & ~busy) == 0) {
-                    for (int heard = sets - 1; heard >= spoke; heard--) {
-                        long before = sum[spoke * SETS + heard];
-                        if (before < FAR) {
-                            int able = (knowers | heard) & speakers & ~spoke;
-                            int then = heard | first | second;
-                            if ((able & first) != 0) {
-                                lower((spoke | first & busy) * SETS + then, before + firstSum);
-                            }
-                            if ((able & second) != 0) {
-                                lower((spoke | second & busy) * SETS + then, before + secondSum);
-                            }
-                        }
-                    }
-                }
-            }
-        }
-
-        void forgetWhoSpoke(int busy) {
-            for (int spoke = busy; spoke > 0; spoke--) {
-                for (int heard = spoke; heard < sets; heard++) {
-                    int at = spoke * SETS + heard;
-                    lower(heard, sum[at]);
-                    sum[at] = FAR;
-                }
-            }
-        }
-
-        void lower(int at, long to) {
-            if (to < sum[at]) {
-                sum[at] = to;
-            }
+        void throughMeeting(int meeting, int digit) {
+            int first = plan.first[meeting];
+            int second = plan.second[meeting];
+            long firstSays = has[first] + weight[first] + digit;
+            long secondSays = has[second] + weight[second] + 2 * digit;
+            long least = Math.min(firstSays, secondSays);
+            has[first] = Math.min(has[first], least);
+            has[second] = Math.min(has[second], least);
+            heard[first] = Math.min(heard[first], least);
+            heard[second] = Math.min(heard[second], least);
         }
     }
 }

@@ -30,8 +30,12 @@ public final class ModelTest {
             new ModelTest("spread " + seed, seed, 6, 12).run(500);
             new ModelTest("crowded " + seed, seed, 6, 2).run(500);
         }
+        for (int seed = 0; seed < 300; seed++) {
+            new ModelTest("keeping " + seed, seed, 6, 12).runKeeping(40);
+            new ModelTest("crowded keeping " + seed, seed, 7, 1 + seed % 3).runKeeping(40);
+        }
         for (int seed = 0; seed < 12; seed++) {
-            new ModelTest("many meetings " + seed, seed, 9, 1 + seed % 4).run(60);
+            new ModelTest("much keeping " + seed, seed, 9, 1 + seed % 4).runKeeping(20);
         }
         for (int seed = 0; seed < 3000; seed++) {
             new ModelTest("texts " + seed, seed, 12, 12).runTexts(40);
@@ -62,6 +66,50 @@ public final class ModelTest {
         tellTown(townText());
         while (calls < length) {
             step(below(24));
+        }
+    }
+
+    /** Most of the calls ask about keeping a promise that stands. */
+    private void runKeeping(int length) {
+        for (int tries = 0; tries < 20 && calls < length; tries++) {
+            tellTown(townText());
+            int sayings = model.count(2) == 0 ? 0 : 2 * model.count(1);
+            for (int i = 0; i < sayings; i++) {
+                int meeting = below(model.count(1));
+                int who = below(2);
+                int promise = below(Math.min(2, model.count(2)));
+                same("say", () -> town.say(-1, meeting, who, promise), () -> model.say(-1, meeting, who, promise));
+            }
+            int days = 1 + below(3);
+            same("days", () -> town.days(days), () -> model.days(days));
+            for (int promise = 0; promise < model.count(2); promise++) {
+                if (model.promise(promise, 5) == 1) {
+                    askKeeping(promise);
+                }
+            }
+        }
+    }
+
+    private void askKeeping(int promise) {
+        int silent = below(3) == 0 ? 0 : below(1 << model.count(0)) & below(1 << model.count(0));
+        int days = below(3) == 0 ? 1 + below(400) : 1 + below(6);
+        int fewer = below(3) == 0 ? 1 + below(60) : 1 + below(6);
+        for (int i = 0; i < 2; i++) {
+            int what = i;
+            same("keep(" + promise + ", " + days + ", " + silent + ", " + what + ")",
+                () -> town.keep(promise, days, silent, what), () -> model.keep(promise, days, silent, what));
+            for (int j = 0; j < model.count(1); j++) {
+                int at = j;
+                same("kept(" + at + ")", () -> town.kept(at), () -> model.kept(at));
+            }
+        }
+        same("stands(" + promise + ", " + silent + ")",
+            () -> town.stands(promise, silent), () -> model.stands(promise, silent));
+        if (below(4) == 0) {
+            same("silence(" + promise + ", " + fewer + ")",
+                () -> town.silence(promise, fewer), () -> model.silence(promise, fewer));
+            same("pairs(" + promise + ", " + fewer + ")",
+                () -> town.pairs(promise, fewer), () -> model.pairs(promise, fewer));
         }
     }
 
