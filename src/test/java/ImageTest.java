@@ -5,6 +5,8 @@ public final class ImageTest {
     public static void main(String[] args) {
         promise19Image();
         promise20Restore();
+        promise20Sayings();
+        promise20Status();
         promise20WhatStays();
         Check.end("ImageTest");
     }
@@ -60,6 +62,41 @@ public final class ImageTest {
         y.days(7);
         Check.same("restore() of a new object", y.restore(), true);
         Check.same("its day", y.count(4), 0);
+    }
+
+    private static void promise20Sayings() {
+        DuskTown x = Check.town("people 3;meet 0 2 at 3;meet 2 1 at 3;promise 0 1 at 0;promise 2 0 at 0;");
+        x.say(EACH, 0, 0, 0);
+        x.say(0, 1, 0, 1);
+        x.say(1, 1, 1, 1);
+        x.image();
+        for (int i = 0; i < 3; i++) {
+            x.unsay();
+        }
+        x.say(7, 1, 1, 1);
+        x.say(7, 1, 1, 0);
+        x.say(7, 0, 0, 0);
+        x.restore();
+        Check.same("all three", x.count(3), 3);
+        Check.same("both stand by the first two", x.days(1), 0);
+        Check.same("both stand by the first and the third", x.days(1), 0);
+        Check.same("by the first alone one falls", x.days(1), 1);
+        Check.same("not the first", x.promise(0, 5), 1);
+        Check.same("what was paid", x.count(5), 5);
+    }
+
+    private static void promise20Status() {
+        DuskTown x = town();
+        Check.tell(x, "fault");
+        x.say(EACH, 0, 5, 0);
+        x.image();
+        Check.tell(x, "fault");
+        x.say(EACH, 0, 5, 0);
+        Check.same("refused texts", x.count(7), 2);
+        Check.same("refused sayings", x.count(8), 3);
+        x.restore();
+        Check.same("refused texts as in the image", x.count(7), 1);
+        Check.same("refused sayings as in the image", x.count(8), 2);
     }
 
     private static void promise20WhatStays() {

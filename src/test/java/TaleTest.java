@@ -6,6 +6,7 @@ public final class TaleTest {
     public static void main(String[] args) {
         promise17Truth();
         promise17Sayings();
+        promise17NewTown();
         promise17Wrong();
         promise18Lacks();
         promise18Wrong();
@@ -58,6 +59,19 @@ public final class TaleTest {
         tale(x, 3, 2, 2, 2);
         x.restore();
         tale(x, 3, 2, 2, 1);
+    }
+
+    private static void promise17NewTown() {
+        DuskTown x = Check.town("people 3;meet 0 2 at 11;promise 0 1 at 3;");
+        x.say(EACH, 0, 0, 0);
+        tale(x, 2, 0, 10, 0);
+        tale(x, 2, 0, 11, 2);
+        Check.same("the same town anew", Check.tell(x, "people 3;meet 0 2 at 11;promise 0 1 at 3;"), 0);
+        tale(x, 2, 0, 11, 1);
+        Check.same("another town", Check.tell(x, "people 3;meet 0 2 at 3;promise 0 1 at 4;"), 0);
+        tale(x, 0, 0, 3, 0);
+        tale(x, 2, 0, 11, 0);
+        tale(x, 2, 1, 3, 1);
     }
 
     private static void promise17Wrong() {
