@@ -18,6 +18,13 @@ final class Check {
         same(what, got ? 1 : 0, due ? 1 : 0);
     }
 
+    static void same(String what, String got, String due) {
+        if (!got.equals(due)) {
+            wrong++;
+            System.out.println(what + " shows " + got + ", due is " + due);
+        }
+    }
+
     static void missing(String what, Runnable call) {
         throwsKind(what, NoSuchElementException.class, call);
     }

@@ -14,31 +14,36 @@ public final class ModelTest {
     private final DuskTown town = new DuskTown();
     private final Model model = new Model();
     private final int mostMeetings;
+    private final int mostPromises;
     private final int hours;
     private final String name;
     private int calls;
 
-    private ModelTest(String name, long seed, int mostMeetings, int hours) {
+    private ModelTest(String name, long seed, int mostMeetings, int mostPromises, int hours) {
         this.name = name;
         this.random = new Random(seed);
         this.mostMeetings = mostMeetings;
+        this.mostPromises = mostPromises;
         this.hours = hours;
     }
 
     public static void main(String[] args) {
         for (int seed = 0; seed < 400; seed++) {
-            new ModelTest("spread " + seed, seed, 6, 12).run(500);
-            new ModelTest("crowded " + seed, seed, 6, 2).run(500);
+            new ModelTest("spread " + seed, seed, 6, 6, 12).run(500);
+            new ModelTest("crowded " + seed, seed, 6, 6, 2).run(500);
+        }
+        for (int seed = 0; seed < 400; seed++) {
+            new ModelTest("full " + seed, seed, 12, 12, 1 + seed % 12).runFull(500);
         }
         for (int seed = 0; seed < 300; seed++) {
-            new ModelTest("keeping " + seed, seed, 6, 12).runKeeping(40);
-            new ModelTest("crowded keeping " + seed, seed, 7, 1 + seed % 3).runKeeping(40);
+            new ModelTest("keeping " + seed, seed, 6, 6, 12).runKeeping(40);
+            new ModelTest("crowded keeping " + seed, seed, 7, 6, 1 + seed % 3).runKeeping(40);
         }
         for (int seed = 0; seed < 12; seed++) {
-            new ModelTest("much keeping " + seed, seed, 9, 1 + seed % 4).runKeeping(20);
+            new ModelTest("much keeping " + seed, seed, 9, 6, 1 + seed % 4).runKeeping(20);
         }
         for (int seed = 0; seed < 3000; seed++) {
-            new ModelTest("texts " + seed, seed, 12, 12).runTexts(40);
+            new ModelTest("texts " + seed, seed, 12, 12, 12).runTexts(40);
         }
         Check.end("ModelTest");
     }
@@ -66,6 +71,17 @@ public final class ModelTest {
         tellTown(townText());
         while (calls < length) {
             step(below(24));
+        }
+    }
+
+    /** Towns as full as can be; keeping is left out, which the model tries row by row. */
+    private void runFull(int length) {
+        tellTown(townText());
+        while (calls < length) {
+            int which = below(24);
+            if (which < 12 || which > 16) {
+                step(which);
+            }
         }
     }
 
@@ -229,7 +245,7 @@ public final class ModelTest {
             }
         }
         int meetings = below(mostMeetings + 1);
-        int promises = 1 + below(6);
+        int promises = 1 + below(mostPromises);
         for (int i = 0; i < Math.max(meetings, promises); i++) {
             if (i < meetings) {
                 text.append("meet").append(couple(people)).append(" at ").append(below(hours)).append(";");
@@ -241,16 +257,29 @@ public final class ModelTest {
                 }
                 text.append(" at ").append(below(3) == 0 ? below(12) : 0);
                 if (i > 0 && below(3) == 0) {
-                    text.append(" on ").append(below(i)).append(";");
-                } else {
-                    text.append(";");
+                    text.append(" on").append(someBelow(i));
                 }
+                text.append(";");
                 if (below(3) == 0) {
                     text.append("\n ");
                 }
             }
         }
         return text.length() > 700 ? text.substring(0, 700) : text.toString();
+    }
+
+    /** One or more unlike numbers below the end, in any order. */
+    private String someBelow(int end) {
+        StringBuilder some = new StringBuilder();
+        int taken = 0;
+        do {
+            int one = below(end);
+            if ((taken >> one & 1) == 0) {
+                some.append(' ').append(one);
+                taken |= 1 << one;
+            }
+        } while (below(3) == 0);
+        return some.toString();
     }
 
     private String couple(int people) {
