@@ -392,6 +392,10 @@ public final class DuskTown {
             hourStart[HOURS] = place;
         }
 
+        int speakerAt(int meeting, int who) {
+            return who == 0 ? first[meeting] : second[meeting];
+        }
+
         int bothOf(int meeting) {
             return 1 << first[meeting] | 1 << second[meeting];
         }
@@ -783,7 +787,7 @@ public final class DuskTown {
             int meeting = sayings.meeting[saying];
             int promise = sayings.promise[saying];
             int both = plan.bothOf(meeting);
-            int speaker = sayings.who[saying] == 0 ? plan.first[meeting] : plan.second[meeting];
+            int speaker = plan.speakerAt(meeting, sayings.who[saying]);
             int has = (know[promise] | heard[promise]) & ~spoke;
             if ((standing >> promise & 1) == 0 || (has >> speaker & 1) == 0) {
                 return;
@@ -941,36 +945,25 @@ public final class DuskTown {
     /**
      * The least sum by which a promise is kept, and the first day's row of it.
      *
-     * Of a day's sayings only a chain is needed: from one who knows the promise to him who is
-     * to say it first on the next day (or one saying of his own, if he knows it). All others
-     * can be left out: the sum does not grow by that, and the row comes earlier. Nobody speaks
-     * twice in the least chain, so "once an HOUR" needs no care, and a day is told by who says
-     * it first alone, not by all who know it.
+     * One saying a day is enough. Who says it first on the last day had heard it on the day
+     * before, from one who had it then, and so on back to one who knows it now: a chain of
+     * sayings, one or more a day. The chain's first sayings, as many as there are days, each
+     * put off to a day of its own, keep it as well; they cost no more, and the first day's row,
+     * with one saying instead of more, comes no later.
      */
     private static final class Keeper {
-        /**
-         * A sum carries its row in its low bits, as a number of base 3 with the day's first
-         * meeting highest: of like sums the first row is the least number then.
-         */
-        private static final int ROW_BITS = 20;
-        private static final long ROW = (1L << ROW_BITS) - 1;
-        private static final int[] DIGIT = {177147, 59049, 19683, 6561, 2187, 729, 243, 81, 27, 9, 3, 1};
-        /** Above all sums, and two of it are still far from an overflow. */
-        private static final long FAR = 1L << 50;
+        /** Above all sums, and far from an overflow. */
+        private static final int FAR = 1 << 28;
 
         final Plan plan;
         /** What a saying adds, by who says it; FAR if he is silent. */
-        final long[] weight = new long[MOST_PEOPLE];
-        /** The least sum of a day's sayings up to now by which each one has it. */
-        final long[] has = new long[MOST_PEOPLE];
-        /** Likewise, by which he has heard it that day. */
-        final long[] heard = new long[MOST_PEOPLE];
-        /** Without rows: by who says it first on a day, and on the next. */
-        final long[] daySum = new long[MOST_PEOPLE * MOST_PEOPLE];
-        /** Without rows: the least sum of some days, by who says it first on their first. */
-        long[] some = new long[MOST_PEOPLE];
-        long[] oneMore = new long[MOST_PEOPLE];
-        long best;
+        final int[] weight = new int[MOST_PEOPLE];
+        /** The least sum of some days, by who says it on their first; FAR if it can't be. */
+        final int[] some = new int[MOST_PEOPLE];
+        final int[] oneMore = new int[MOST_PEOPLE];
+        /** The first day's saying: at which place of the day, and its digit in the row. */
+        int bestPlace;
+        int bestDigit;
 
         Keeper(Plan town) {
             plan = town;
@@ -978,78 +971,59 @@ public final class DuskTown {
 
         void prepare(int silent, boolean byPrice) {
             for (int person = 0; person < plan.people; person++) {
-                long each = byPrice ? plan.price[person] : 1;
-                weight[person] = (silent >> person & 1) != 0 ? FAR : each << ROW_BITS;
+                int each = byPrice ? plan.price[person] : 1;
+                weight[person] = (silent >> person & 1) != 0 ? FAR : each;
             }
         }
 
         int leastSum(int knowers, int days) {
-            findDaySums();
             sumDays(days - 1);
-            throughDay(knowers);
-            best = FAR;
-            for (int person = 0; person < plan.people; person++) {
-                best = Math.min(best, heard[person] + some[person]);
+            int least = FAR;
+            // A row is the earlier, the later its place is and the less its digit: of like sums the first found stays.
+            for (int place = plan.meetings - 1; place >= 0; place--) {
+                int behind = sumBehind(plan.order[place]);
+                for (int who = 0; who <= 1; who++) {
+                    int speaker = plan.speakerAt(plan.order[place], who);
+                    int sum = weight[speaker] + behind;
+                    if ((knowers >> speaker & 1) != 0 && sum < least) {
+                        least = sum;
+                        bestPlace = place;
+                        bestDigit = who + 1;
+                    }
+                }
             }
-            return best < FAR ? (int) (best >> ROW_BITS) : NONE;
+            return least < FAR ? least : NONE;
         }
 
         /** Writes the row of the least sum, by the meetings' numbers. */
         void writeRow(int[] row) {
-            int digits = (int) (best & ROW);
-            for (int place = MOST_MEETINGS - 1; place >= 0; place--) {
-                if (place < plan.meetings) {
-                    row[plan.order[place]] = digits % 3;
-                }
-                digits /= 3;
-            }
-        }
-
-        void findDaySums() {
-            for (int person = 0; person < plan.people; person++) {
-                throughDay(1 << person);
-                for (int then = 0; then < plan.people; then++) {
-                    daySum[person * MOST_PEOPLE + then] = heard[then] & ~ROW;
-                }
+            for (int place = 0; place < plan.meetings; place++) {
+                row[plan.order[place]] = place == bestPlace ? bestDigit : 0;
             }
         }
 
         void sumDays(int days) {
             Arrays.fill(some, 0);
             for (int day = 0; day < days; day++) {
-                for (int person = 0; person < plan.people; person++) {
-                    long least = FAR;
-                    for (int then = 0; then < plan.people; then++) {
-                        least = Math.min(least, daySum[person * MOST_PEOPLE + then] + some[then]);
-                    }
-                    oneMore[person] = least;
+                addDay();
+            }
+        }
+
+        void addDay() {
+            Arrays.fill(oneMore, FAR);
+            for (int meeting = 0; meeting < plan.meetings; meeting++) {
+                int behind = sumBehind(meeting);
+                for (int who = 0; who <= 1; who++) {
+                    int speaker = plan.speakerAt(meeting, who);
+                    oneMore[speaker] = Math.min(oneMore[speaker], weight[speaker] + behind);
                 }
-                long[] old = some;
-                some = oneMore;
-                oneMore = old;
             }
+            System.arraycopy(oneMore, 0, some, 0, MOST_PEOPLE);
         }
 
-        void throughDay(int knowers) {
-            for (int person = 0; person < plan.people; person++) {
-                has[person] = (knowers >> person & 1) != 0 ? 0 : FAR;
-                heard[person] = FAR;
-            }
-            for (int place = 0; place < plan.meetings; place++) {
-                throughMeeting(plan.order[place], DIGIT[place]);
-            }
-        }
-
-        void throughMeeting(int meeting, int digit) {
-            int first = plan.first[meeting];
-            int second = plan.second[meeting];
-            long firstSays = has[first] + weight[first] + digit;
-            long secondSays = has[second] + weight[second] + 2 * digit;
-            long least = Math.min(firstSays, secondSays);
-            has[first] = Math.min(has[first], least);
-            has[second] = Math.min(has[second], least);
-            heard[first] = Math.min(heard[first], least);
-            heard[second] = Math.min(heard[second], least);
+        /** The least sum of the days behind one on which it was said at this meeting. */
+        int sumBehind(int meeting) {
+            return Math.min(some[plan.first[meeting]], some[plan.second[meeting]]);
         }
     }
 }

@@ -290,6 +290,13 @@ public final class EdgeDaysTest {
         Check.same("0 and 2 said something", x.count(5), 2);
         state("2 said it in the hour in which he heard it", x, 0, STANDS, -1, 15);
         state("the other one was not said", x, 1, UNDONE, 0, 3);
+        // that others have spoken in between does not give him a second saying
+        DuskTown z = Check.town("people 4;meet 0 2 at 5;meet 2 1 at 5;meet 0 3 at 5;promise 0 1 at 0;promise 0 1 at 0;");
+        z.say(EACH, 0, 0, 0);
+        z.say(EACH, 1, 0, 0);
+        z.say(EACH, 2, 0, 1);
+        Check.same("0, then 2, then not 0", z.days(1), 1);
+        Check.same("0 and 2 paid", z.count(5), 2);
         // one who has been told something has said nothing yet
         DuskTown y = Check.town("people 3;meet 0 2 at 5;promise 0 1 at 0;promise 2 1 at 0;");
         y.say(EACH, 0, 0, 0);

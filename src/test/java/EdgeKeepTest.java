@@ -17,6 +17,8 @@ public final class EdgeKeepTest {
         silentMayHear();
         cantBe();
         knowersWhoMeetNobody();
+        meetingsOfTheTownBefore();
+        sumOfManySteps();
         leastSumOfPrices();
         fewestSayings();
         eachOnceAnHour();
@@ -25,6 +27,7 @@ public final class EdgeKeepTest {
         laidOutForItsFirstDay();
         rowInTheOrderOfHours();
         rowNothingFirstSecond();
+        rowAtEachPlace();
         rowThatIsKept();
         noneIsKept();
         refusedKeepsLeaveTheRow();
@@ -208,6 +211,51 @@ public final class EdgeKeepTest {
         Check.same("nor can 1 and 3", x.pairs(0, 1), 5);
     }
 
+    // who met somebody in the town before, and meets nobody in this one, can't keep it
+    private static void meetingsOfTheTownBefore() {
+        for (int alone = 0; alone <= 1; alone++) {
+            DuskTown x = Check.town("people 4;meet 0 1 at 1;meet 1 2 at 2;meet 2 3 at 3;");
+            int meets = 1 - alone;
+            Check.same("a new town", Check.tell(x, "people 4;meet " + meets + " 2 at 3;promise 0 1 at 0;"), 0);
+            x.say(0, 0, 0, 0);
+            Check.same("day 0", x.days(1), 0);
+            Check.same("who knows it", x.promise(0, 7), 7);
+            Check.same("all but " + alone + " silent", x.stands(0, 15 & ~(1 << alone)), 0);
+            Check.same("all but " + alone + " silent: keep", x.keep(0, 1, 15 & ~(1 << alone), 0), DuskTown.NONE);
+            Check.same("silence", x.silence(0, 1), 7 & ~(1 << alone));
+            Check.same("pairs", x.pairs(0, 1), 5);
+        }
+    }
+
+    // each day's first one was told it on the day ahead: a way of many days to the cheapest
+    private static void sumOfManySteps() {
+        for (int order = 0; order <= 1; order++) {
+            boolean along = order == 0;
+            // 5 tells 4, he tells 3, and so on to 0, or the numbers the other way around
+            String[] names = along ? new String[] {"0", "1", "2", "3", "4", "5"} : new String[] {"5", "4", "3", "2", "1", "0"};
+            StringBuilder text = new StringBuilder("people 6;price " + names[0] + " 1;price " + names[5] + " 40;");
+            for (int i = 1; i < 5; i++) {
+                text.append("price ").append(names[i]).append(" 50;");
+            }
+            for (int i = 1; i < 6; i++) {
+                text.append("meet ").append(names[i]).append(' ').append(names[i - 1]).append(" at ").append(i).append(';');
+            }
+            text.append("promise ").append(names[5]).append(' ').append(names[0]).append(" at 0;");
+            DuskTown x = Check.town(text.toString());
+            x.say(0, 4, 0, 0);
+            x.say(1, 4, 0, 0);
+            Check.same("days 0 and 1", x.days(2), 0);
+            Check.same("the last two know it", x.promise(0, 7), along ? 48 : 3);
+            // the dear four of the way, and the cheap one from then on; or 40 on each day
+            int[] days = {1, 4, 5, 6, 10, 100, 400};
+            int[] due = {40, 160, 200, 202, 206, 296, 596};
+            for (int i = 0; i < days.length; i++) {
+                Check.same("keep for " + days[i] + " days", x.keep(0, days[i], 0, 0), due[i]);
+                row("keep for " + days[i] + " days", x, 0, 0, 0, i < 3 ? 0 : 1, i < 3 ? 1 : 0);
+            }
+        }
+    }
+
     // "the least sum of PRICES"
     private static void leastSumOfPrices() {
         // 0 is dear; 2 is cheap, and can have it only by being told a day ahead
@@ -330,6 +378,24 @@ public final class EdgeKeepTest {
         row("0 silent: nothing at the first place", y, 0, 1);
         y.keep(0, 1, 3, 0);
         row("0 and 1 silent", y, 2, 0);
+    }
+
+    private static void rowAtEachPlace() {
+        for (int place = 0; place < 12; place++) {
+            StringBuilder text = new StringBuilder("people 5;");
+            int[] first = new int[12];
+            int[] second = new int[12];
+            for (int meeting = 0; meeting < 12; meeting++) {
+                text.append(meeting == place ? "meet 0 2" : "meet 3 4").append(" at ").append(meeting).append(";");
+                first[meeting] = meeting == place ? 1 : 0;
+                second[meeting] = meeting == place ? 2 : 0;
+            }
+            DuskTown x = dayOne(text + "promise 0 1 at 0;", 7, place, 0);
+            Check.same("the first one", x.keep(0, 1, 0, 0), 1);
+            row("the first one at place " + place, x, first);
+            Check.same("the second one", x.keep(0, 400, 1, 0), 400);
+            row("the second one at place " + place, x, second);
+        }
     }
 
     // keep: "The first DAY's row of it is kept."

@@ -26,6 +26,7 @@ public final class EdgeTaleTest {
         lacksNobody();
         lacksOfATaleThatIsNotFalse();
         noSuchPersonPromiseDayHour();
+        fullTown();
         askingChangesNothing();
         Check.end("EdgeTaleTest");
     }
@@ -317,6 +318,30 @@ public final class EdgeTaleTest {
         DuskTown none = new DuskTown();
         Check.missing("a new object's tale", () -> none.tale(0, 0, 0, 0));
         Check.missing("a new object's lack", () -> none.lacks(0, 0, 0, 0));
+    }
+
+    // the last of 6 PEOPLE and of 12 PROMISES
+    private static void fullTown() {
+        DuskTown x = Check.town("people 6;meet 4 5 at 3;meet 1 0 at 3;" + "promise 0 1 at 0;".repeat(10)
+            + "promise 1 4 day 2 at 0;promise 1 4 at 0;");
+        x.say(0, 0, 0, 11);
+        x.say(0, 1, 0, 11);
+        tale(x, 5, 11, 0, 2, FALSE);
+        lacks(x, 5, 11, 0, 2, 1);
+        tale(x, 5, 11, 0, 3, TRUE);
+        tale(x, 0, 11, 0, 2, FALSE);
+        tale(x, 0, 11, 0, 3, TRUE);
+        tale(x, 3, 11, 99, 11, FALSE);
+        lacks(x, 3, 11, 99, 11, 0);
+        lacks(x, 3, 11, 0, 2, 1);
+        // nobody MAY have heard promise 10 then, whoever MAY have heard 11
+        for (int person = 0; person < 6; person++) {
+            tale(x, person, 10, 1, 11, FALSE);
+            lacks(x, person, 10, 1, 11, DuskTown.NONE);
+        }
+        DuskTown y = Check.town("people 6;" + "promise 0 1 day 9 at 0;".repeat(12));
+        lacks(y, 5, 11, 8, 11, DuskTown.NONE);
+        lacks(y, 5, 11, 9, 0, 0);
     }
 
     private static void askingChangesNothing() {

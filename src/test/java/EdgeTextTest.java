@@ -202,6 +202,9 @@ public final class EdgeTextTest {
         fault(PROMISE.repeat(11) + "promise 0 1 at 0 on ^12;", 3);
         fault(PROMISE.repeat(11) + "promise 0 1 at 0 on ^32;", 3);
         fault(PROMISE + "promise 0 1 at 0 on ^999;", 3);
+        // 32 and 33 are no 0 and 1 that went around
+        fault(PROMISE + "promise 0 1 at 0 on 0 ^32;", 3);
+        fault(PROMISE + PROMISE + "promise 0 1 at 0 on 0 1 ^33;", 3);
         fault(PROMISE + "promise 0 1 at 0 on 0 ^0;", 4);
         fault(PROMISE + PROMISE + "promise 0 1 at 0 on 1 0 ^001;", 4);
         fault(PROMISE.repeat(11) + "promise 0 1 at 0 on 0 1 2 3 4 5 6 7 8 9 10 ^10;", 4);
@@ -232,6 +235,12 @@ public final class EdgeTextTest {
     private static void wordsTheLongestRow() {
         fault("^peoplemeet 3;", 1);
         fault("^peopl 3;", 1);
+        fault("^zeople 3;", 1);
+        fault("^aeople 3;", 1);
+        fault("^peoplez 3;", 1);
+        fault("^peoplea 3;", 1);
+        fault("^deet 0 1 at 3;", 1);
+        fault("meet 0 1 ^bt 3;", 1);
         fault("^peoples 3;", 1);
         fault("^e;", 1);
         fault("meet 0 1 ^att 3;", 1);
@@ -545,6 +554,14 @@ public final class EdgeTextTest {
         Check.same("restore()", x.restore(), false);
         Check.same("2 had not heard it", x.tale(2, 0, 99, 11), 1);
         Check.same("no saying keeps it", x.days(1), 1);
+        // nor does a promise's number say anything of the one that had it before
+        Check.same("a town with as many promises", Check.tell(x, "people 3;meet 1 2 at 5;promise 2 1 day 4 at 3;promise 2 1 at 4;"), 0);
+        int[][] due2 = {{2, 1, 4, 3, 0, 0, -1, 0}, {2, 1, 0, 4, 0, 0, -1, 0}};
+        for (int which = 0; which < 2; which++) {
+            for (int what = 0; what < 8; what++) {
+                Check.same("promise(" + which + ", " + what + ") anew", x.promise(which, what), due2[which][what]);
+            }
+        }
         // an empty text is a town too
         DuskTown y = lived();
         Check.same("town(0)", y.town(0), 0);
