@@ -979,7 +979,8 @@ public final class DuskTown {
         int leastSum(int knowers, int days) {
             sumDays(days - 1);
             int least = FAR;
-            // A row is the earlier, the later its place is and the less its digit: of like sums the first found stays.
+            // A row is the earlier, the later its place and the less its digit is: so of like
+            // sums the one that is found first stays.
             for (int place = plan.meetings - 1; place >= 0; place--) {
                 int behind = sumBehind(plan.order[place]);
                 for (int who = 0; who <= 1; who++) {

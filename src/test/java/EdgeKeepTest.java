@@ -8,6 +8,7 @@ public final class EdgeKeepTest {
 
     public static void main(String[] args) {
         standsNow();
+        standsBehindDay99();
         doesNotStandAheadOfAll();
         whatIsAskedAheadOfDays();
         aloneLeaningOnNothing();
@@ -87,6 +88,21 @@ public final class EdgeKeepTest {
             Check.missing("pairs, undone: " + undone, () -> x.pairs(undone, 1));
         }
         row("the row of day 2 is kept", x, 1);
+    }
+
+    // NOW may be behind the last DAY that can be told
+    private static void standsBehindDay99() {
+        DuskTown x = Check.town("people 3;meet 0 2 at 3;promise 0 1 day 99 at 11;promise 0 1 day 99 at 2;");
+        x.say(EACH, 0, 0, 1);
+        Check.same("days 0 to 98", x.days(99), 0);
+        Check.missing("not made yet", () -> x.keep(1, 400, 0, 0));
+        Check.same("day 99", x.days(1), 1);
+        Check.missing("undone on the last day", () -> x.keep(0, 400, 0, 0));
+        Check.same("on day 100", x.keep(1, 400, 0, 0), 400);
+        Check.same("to day 200", x.days(100), 0);
+        Check.same("on day 200", x.keep(1, 400, 1, 1), 400);
+        row("on day 200", x, 2);
+        Check.same("silence on day 200", x.silence(1, 60), 5);
     }
 
     // "NoSuchElementException .. IllegalArgumentException (behind that)"

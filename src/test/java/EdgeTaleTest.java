@@ -19,6 +19,7 @@ public final class EdgeTaleTest {
         mayOnlyByMeeting();
         trueBySayingsAsTold();
         trueFromDayNoughtApartFromTheTown();
+        trueOfOneAlone();
         trueOfWhatFell();
         trueUpToTheLastHour();
         undoneAtOnceIsHeardByNobody();
@@ -201,6 +202,21 @@ public final class EdgeTaleTest {
         y.unsay();
         Check.same("2 knows it", y.promise(0, 7), 5);
         tale(y, 2, 0, 0, 5, OPEN);
+    }
+
+    // whoever is the only one that hears it in an HOUR
+    private static void trueOfOneAlone() {
+        for (int alone = 0; alone < 6; alone++) {
+            int by = (alone + 1) % 6;
+            int to = (alone + 2) % 6;
+            DuskTown x = Check.town("people 6;meet " + by + " " + alone + " at 3;promise " + by + " " + to + " at 0;");
+            x.say(0, 0, 0, 0);
+            for (int person = 0; person < 6; person++) {
+                boolean both = person == by || person == to;
+                tale(x, person, 0, 0, 2, both ? TRUE : FALSE);
+                tale(x, person, 0, 0, 3, both || person == alone ? TRUE : FALSE);
+            }
+        }
     }
 
     // one that fell can't be said behind its dusk, and was HEARD all the same
